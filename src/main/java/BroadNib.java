@@ -272,16 +272,16 @@ public final class BroadNib {
         if (sheet.find(pen) == null) {
             return UNKNOWN;
         }
-        int others = sheet.penCount - 1;
         int sum = 0;
         for (int set = 0; set < 1 << sheet.penCount; set++) {
-            int size = Integer.bitCount(set);
-            if ((set >> pen & 1) == 0 && size <= others) {
-                // So many orders have just this set ahead of the pen.
-                sum += ORDERS[size] * ORDERS[others - size] * blackerBehind(set, pen);
+            if ((set >> pen & 1) == 0) {
+                int ahead = Integer.bitCount(set);
+                // Orders that have just this set ahead of the pen: each order of it by each of those behind.
+                int many = orders(ahead) * orders(sheet.penCount - 1 - ahead);
+                sum += many * blackerBehind(set, pen);
             }
         }
-        return toldFraction(sum, ORDERS[sheet.penCount], upper);
+        return toldFraction(sum, orders(sheet.penCount), upper);
     }
 
     public int rests(int one, int other, int what) {
@@ -416,31 +416,27 @@ public final class BroadNib {
         }
     }
 
-    /** How many more dots a pen makes black behind a set of others. Among those the order does not matter. */
+    /** How many more dots a pen makes black behind a set of others: no pen's ink is another's, so any order will do. */
     private int blackerBehind(int set, int pen) {
         trial.copy(sheet);
         for (int i = 0; i < sheet.penCount; i++) {
             if ((set >> i & 1) == 1) {
-                letWrite(i);
+                trial.follow(trial.find(i), word, word.length);
             }
         }
         int before = Integer.bitCount(trial.blackBits());
-        letWrite(pen);
-        return Integer.bitCount(trial.blackBits()) - before;
-    }
-
-    private void letWrite(int pen) {
         trial.follow(trial.find(pen), word, word.length);
+        return Integer.bitCount(trial.blackBits()) - before;
     }
 
     /** A pair is 2 times the choice of the one and that of the other. */
     private void reckonGains(int one, int other, int pair) {
         trial.copy(sheet);
         if ((pair & 2) != 0) {
-            letWrite(one);
+            trial.follow(trial.find(one), word, word.length);
         }
         if ((pair & 1) != 0) {
-            letWrite(other);
+            trial.follow(trial.find(other), word, word.length);
         }
         int black = Integer.bitCount(trial.blackBits());
         gainOfOne[pair & 3] = trial.inkOf(one) + 2 * black;
@@ -500,7 +496,7 @@ public final class BroadNib {
     }
 
     private static boolean isDot(int dot) {
-        return isWithin(dot, DOTS - 1);
+        return dot >= 0 && dot < DOTS;
     }
 
     private static boolean isDirection(int direction) {
@@ -509,6 +505,10 @@ public final class BroadNib {
 
     private static long tens(int power) {
         return isWithin(power, TENS.length - 1) ? TENS[power] : 1;
+    }
+
+    private static int orders(int pens) {
+        return isWithin(pens, ORDERS.length - 1) ? ORDERS[pens] : 1;
     }
 
     private static boolean hasFigures(long row, int most) {
@@ -810,7 +810,7 @@ public final class BroadNib {
             return laid;
         }
 
-        /** How many steps of a word were done, of n at most, till one could not be. */
+        /** How many steps of a word were done, of n at most, till one could not be; none by no pen. */
         int follow(Pen pen, Word word, int n) {
             int most = Math.min(n, word.length);
             for (int i = 0; i < most; i++) {

@@ -12,6 +12,7 @@ public final class ActsTest {
         turns();
         blots();
         undone();
+        undoneOfSeveral();
         forgotten();
         CHECK.end();
     }
@@ -171,6 +172,23 @@ public final class ActsTest {
         CHECK.due("time is back", nib.count(2), 0);
         CHECK.due("the word stays", nib.count(7), 1);
         CHECK.due("nothing left", nib.undo(), BroadNib.STATE);
+    }
+
+    private static void undoneOfSeveral() {
+        BroadNib nib = Check.desk("NP002009P112009P222009");
+        nib.step(2, 0);
+        nib.turn(1);
+        nib.step(0, 1);
+        nib.undo();
+        CHECK.due("pen 0 is back", nib.pen(0, 0), 0);
+        CHECK.due("pen 1 is turned", nib.pen(1, 2), 60);
+        nib.undo();
+        CHECK.due("pen 1 is turned back", nib.pen(1, 2), 0);
+        CHECK.due("pen 2 went on", nib.pen(2, 0), 13);
+        nib.undo();
+        CHECK.due("pen 2 is back", nib.pen(2, 0), 12);
+        CHECK.due("all full", nib.count(6), 7);
+        CHECK.due("no ink", nib.count(3), 0);
     }
 
     private static void forgotten() {

@@ -12,6 +12,7 @@ public final class ChancesTest {
         skipsRefused();
         seeds();
         years();
+        yearsOneByOne();
         CHECK.end();
     }
 
@@ -42,6 +43,11 @@ public final class ChancesTest {
         nib = Check.desk("NP113009S213");
         nib.word(1, 0);
         share(nib, 0, 0, 1);
+        // Dots of their own.
+        nib = Check.desk("NP112009P122009");
+        nib.word(1, 0);
+        share(nib, 0, 1, 1);
+        share(nib, 1, 1, 1);
         // It writes till it can not go on.
         nib = Check.desk("NP312009");
         nib.word(4, 20);
@@ -130,6 +136,8 @@ public final class ChancesTest {
         chance(nib, 2, 3, 7, 10);
         chance(nib, 3, 3, 49, 100);
         chance(nib, 4, 3, 0, 1);
+        chance(nib, 1, 1, 99, 100);
+        chance(nib, 1, 9, 19, 100);
         chance(nib, 99, 3, 0, 1);
         chance(nib, 3, 0, 1, 1);
         chance(nib, 1, 10, 0, 1);
@@ -181,17 +189,23 @@ public final class ChancesTest {
         CHECK.due("refused: the seed stays", nib.seed(0), 0);
     }
 
-    /** The seed from which one year comes to the kind, found by going on from 0. */
-    private static long seedFor(int kind) {
-        long seed = 0;
-        for (int i = 0; i < 100000; i++) {
-            long next = seed * 6364136223846793005L + 1442695040888963407L;
-            if ((next >>> 33) % 48 == kind) {
+    /** The seed from which years come to these kinds, one by one, found by going on from 0. */
+    private static long seedFor(int... kinds) {
+        for (long seed = 0; seed < 10000000; seed++) {
+            long next = seed;
+            int fits = 0;
+            while (fits < kinds.length) {
+                next = next * 6364136223846793005L + 1442695040888963407L;
+                if ((next >>> 33) % 48 != kinds[fits]) {
+                    break;
+                }
+                fits++;
+            }
+            if (fits == kinds.length) {
                 return seed;
             }
-            seed = next;
         }
-        throw new IllegalStateException("no seed for " + kind);
+        throw new IllegalStateException("no seed");
     }
 
     private static void year(BroadNib nib, int kind, int due) {
@@ -224,5 +238,32 @@ public final class ChancesTest {
         nib.blot(6);
         nib.seed(seedFor(45));
         CHECK.due("a clean dot", nib.years(1), stains - 4);
+    }
+
+    private static void yearsOf(BroadNib nib, int due, int... kinds) {
+        nib.seed(seedFor(kinds));
+        CHECK.due("years of " + java.util.Arrays.toString(kinds), nib.years(kinds.length), due);
+    }
+
+    private static void yearsOneByOne() {
+        // Brushes of nib (1, 0): 1 along 0 and 4, 2 when turned; of 5 ink and of 45.
+        BroadNib nib = Check.desk("NP002431P402439");
+        yearsOf(nib, 1 + 3, 0, 2);
+        yearsOf(nib, 0 + 2, 32, 0);
+        yearsOf(nib, 0 + 1, 33, 0);
+        yearsOf(nib, 0 + 2, 33, 12);
+        yearsOf(nib, 0 + 1, 34, 0);
+        yearsOf(nib, 0 + 0, 36, 0);
+        yearsOf(nib, 0 + 1, 36, 12);
+        yearsOf(nib, 0 + 0, 37, 12);
+        yearsOf(nib, 1 + 1 + 1, 0, 46, 45);
+        yearsOf(nib, 2 + 0, 1, 45);
+        for (int i = 0; i < 5; i++) {
+            nib.step(0, i % 2 == 0 ? 0 : 4);
+        }
+        CHECK.due("no ink left", nib.pen(0, 3), 0);
+        yearsOf(nib, 5 + 5, 4, 0);
+        yearsOf(nib, 5 + 6, 40, 4);
+        yearsOf(nib, 5 + 5, 41, 4);
     }
 }

@@ -15,20 +15,15 @@ public final class WaysTest {
     }
 
     private static void written() {
-        // A brush of nib (1, 0): 1 along 0, 2 along 2.
+        // A brush of nib (1, 0): 1 along 0 and 4, 2 along 2; it has 5 ink.
         BroadNib nib = Check.desk("NP222431");
         nib.word(5, 2024);
-        int[] dots = {12, 13, 18, 19, 19, 19, 19, 19, 19};
-        int[] laid = {0, 1, 3, 4, 4, 4, 4, 4, 4};
+        int[] dots = {12, 13, 18, 19, 24, 23, 23, 23, 23};
+        int[] laid = {0, 1, 3, 4, 5, 5, 5, 5, 5};
         for (int n = 0; n <= 8; n++) {
-            CHECK.due("behind(0, " + n + ", 0)", nib.behind(0, n, 0), n < 4 ? dots[n] : 24);
-            CHECK.due("behind(0, " + n + ", 1)", nib.behind(0, n, 1), n < 4 ? 5 - laid[n] : 0);
-            CHECK.due("behind(0, " + n + ", 2)", nib.behind(0, n, 2), n < 4 ? laid[n] : 5);
-            if (n == 3) {
-                // The word 02024 ends at dot 23, but ink is out at 24.
-                CHECK.due("a fifth step lays none", nib.behind(0, 5, 2), 5);
-                nib.word(4, 202);
-            }
+            CHECK.due("behind(0, " + n + ", 0)", nib.behind(0, n, 0), dots[n]);
+            CHECK.due("behind(0, " + n + ", 1)", nib.behind(0, n, 1), 5 - laid[n]);
+            CHECK.due("behind(0, " + n + ", 2)", nib.behind(0, n, 2), laid[n]);
         }
         CHECK.due("nothing changed", nib.pen(0, 0) * 1000 + nib.pen(0, 3) * 100 + nib.count(3), 12500);
         nib.word(4, 2);
@@ -158,11 +153,16 @@ public final class WaysTest {
         judge(nib, 2, 700700, 1);
         CHECK.due("nothing changed", nib.count(2) + nib.count(8), 0);
         CHECK.due("no ink came", nib.count(3), 5);
+        // The second pen can write 4; the first lacks 1 ink by a step along 0.
+        nib = Check.desk("NP222439P440639");
+        nib.word(1, 4);
+        judge(nib, 1, 710, none);
+        judge(nib, 2, 100300, none);
     }
 
     private static void judgedNot() {
-        BroadNib nib = Check.desk("NP222002S449");
-        long[] rows = {0, 1, 99, 108, 109, 110, 201, 209, 210, 301, 310, 401, 410, 545, 554, 589, 610, 701, 710, 800, 900, 999};
+        BroadNib nib = Check.desk("NP222002S449S019");
+        long[] rows = {0, 1, 99, 108, 109, 110, 201, 209, 210, 301, 310, 401, 410, 545, 550, 554, 589, 610, 701, 710, 800, 900, 999};
         for (long row : rows) {
             judge(nib, 1, row, 0);
         }
@@ -185,6 +185,8 @@ public final class WaysTest {
         judge(nib, -1, 0, BroadNib.OUTSIDE);
         judge(nib, 1, -1, BroadNib.OUTSIDE);
         judge(nib, 1, 1000, BroadNib.OUTSIDE);
+        judge(nib, 2, 1000000, BroadNib.OUTSIDE);
+        judge(nib, 3, 1000000000, BroadNib.OUTSIDE);
         judge(nib, 4, 1000000000000L, BroadNib.OUTSIDE);
         judge(nib, 4, 999999999999L, 0);
         judge(nib, 4, Long.MIN_VALUE, BroadNib.OUTSIDE);
