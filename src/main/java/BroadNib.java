@@ -1088,7 +1088,7 @@ public final class BroadNib {
         }
 
         int lowestTo(int dot) {
-            return rowsTo(dot) > 0 ? lowest[dot] : NONE;
+            return isDot(dot) && rows[dot] > 0 ? lowest[dot] : NONE;
         }
     }
 }
