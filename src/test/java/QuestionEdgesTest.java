@@ -400,6 +400,13 @@ public final class QuestionEdgesTest {
                 }
             }
         }
+        // Each figure is found however many of 0 or of 9 come behind it.
+        for (int n = 2; n <= 4; n++) {
+            long unit = tens(3 * (n - 1));
+            judge(nib, n, 100 * unit, 1);
+            judge(nib, n, 609 * unit + unit - 1, 1);
+            judge(nib, n, 610 * unit - 1 + unit, 0);
+        }
         // Figures that are not told are 0, which is no doing.
         judge(nib, 4, 200, 0);
         judge(nib, 2, 200, 0);

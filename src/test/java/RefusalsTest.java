@@ -226,6 +226,8 @@ public final class RefusalsTest {
             refused("rests" + of, UNKNOWN, maker, nib -> nib.rests(first, 0, 0));
             refused("rests, the other" + of, UNKNOWN, maker, nib -> nib.rests(0, first, 0));
             refused("skipped" + of, UNKNOWN, maker, nib -> nib.skipped(first, 0, 0, true));
+            CHECK.due("who is down" + of, maker.get().count(5), (1 << pens) - 1);
+            CHECK.due("who is full" + of, maker.get().count(6), (1 << pens) - 1);
             if (pens > 0) {
                 CHECK.due("the last pen" + of, maker.get().pen(pens - 1, 5), 1);
                 CHECK.due("the last pen turned" + of, maker.get().turn(pens - 1) >= 0);
