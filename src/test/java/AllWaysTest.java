@@ -21,9 +21,7 @@ public final class AllWaysTest {
             text.chars().forEach(model::write);
             model.desk();
             leastOf(text, nib, model);
-            if (dot % 4 == 0) {
-                ringsOf(text, nib, model);
-            }
+            ringsOf(text, nib, model);
         }
     }
 
